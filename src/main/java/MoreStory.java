@@ -421,7 +421,6 @@ public final class MoreStory {
     public int judge(int tape, int i) {
         if (tape < 0 || tape >= TAPES) return NONE;
         if (sorts[tape] >= 0 && sorts[tape] != LONGS) return CAST;
-        if (now.things == 0) return NEVER;
         for (int t = 0; t < now.things; t++) {
             if (!holds(tape, (long) i + t)) return ENDED + t;
             if (tapes[tape][i + t] != now.habit[t]) return t;
