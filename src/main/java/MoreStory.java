@@ -15,7 +15,7 @@ public final class MoreStory {
     private static final int THINGS = 7, PARENTS = 4, KINDS = 7, PARTS = 4, HOUSES = 6;
     private static final int HEARD = 8, BOOKED = 12, ASKS = 60, EVENINGS = 10, LAST_EVENING = 9999;
     private static final int MOST_HABIT = 999, MOST_LATE = 99, MOST_COUPONS = 20, ORDERED = 5, ORDERS = 120;
-    private static final int SIGNS = 100, CLAUSES = 10, DEPTH = 4, TRACED = 20, NO_COUPONS = 1000;
+    private static final int SIGNS = 100, CLAUSES = 10, DEPTH = 4, TRACED = 20, UNCOUNTED = 1000;
     private static final int TAPES = 6, ITEMS = 60, LONGS = 3, SORTS = 5, ENDED = 100;
 
     private static final int GOES_ON = 0, SLEEPS = 1, TEARS = 2;
@@ -636,7 +636,7 @@ public final class MoreStory {
             turns = Math.min(now.things, THINGS);
             for (int t = 0; t < turns; t++) turn[t] = t;
             place = now.one;
-            coupons = NO_COUPONS;
+            coupons = UNCOUNTED;
             asks = 0;
             minutes = 0;
         }
