@@ -570,60 +570,52 @@ final class Plain {
         return what < 0 || what >= all.length ? -2 : all[what];
     }
 
-    // ---- tapes: what the host refuses, it refuses here by itself
+    // ---- tapes: the host's own arrays
+
+    private static int size(Object row) { return java.lang.reflect.Array.getLength(row); }
 
     int tape(int tape, int sort, int n) {
         if (tape < 0 || tape > 5) return -1;
         if (sort < -1 || sort > 4 || sort >= 0 && n > 60) return -2;
-        try {
-            switch (sort) {
-                case 0: tapes[tape] = new byte[n]; break;
-                case 1: tapes[tape] = new short[n]; break;
-                case 2: tapes[tape] = new int[n]; break;
-                case 3: tapes[tape] = new long[n]; break;
-                case 4: tapes[tape] = new boolean[n]; break;
-                default: tapes[tape] = null; break;
-            }
-            return 1;
-        } catch (NegativeArraySizeException e) {
-            return -14;
+        if (sort >= 0 && n < 0) return -14;
+        switch (sort) {
+            case 0: tapes[tape] = new byte[n]; break;
+            case 1: tapes[tape] = new short[n]; break;
+            case 2: tapes[tape] = new int[n]; break;
+            case 3: tapes[tape] = new long[n]; break;
+            case 4: tapes[tape] = new boolean[n]; break;
+            default: tapes[tape] = null; break;
         }
+        return 1;
     }
 
     int item(int tape, int i, long v) {
         if (tape < 0 || tape > 5) return -1;
-        if (tapes[tape] == null) return -11;
-        try {
-            Object row = tapes[tape];
-            if (row instanceof byte[]) ((byte[]) row)[i] = (byte) v;
-            else if (row instanceof short[]) ((short[]) row)[i] = (short) v;
-            else if (row instanceof int[]) ((int[]) row)[i] = (int) v;
-            else if (row instanceof long[]) ((long[]) row)[i] = v;
-            else ((boolean[]) row)[i] = v != 0;
-            return 1;
-        } catch (ArrayIndexOutOfBoundsException e) {
-            return -13;
-        }
+        Object row = tapes[tape];
+        if (row == null) return -11;
+        if (i < 0 || i >= size(row)) return -13;
+        if (row instanceof byte[]) ((byte[]) row)[i] = (byte) v;
+        else if (row instanceof short[]) ((short[]) row)[i] = (short) v;
+        else if (row instanceof int[]) ((int[]) row)[i] = (int) v;
+        else if (row instanceof long[]) ((long[]) row)[i] = v;
+        else ((boolean[]) row)[i] = v != 0;
+        return 1;
     }
 
     long read(int tape, int i) {
         if (tape < 0 || tape > 5 || tapes[tape] == null) return Long.MIN_VALUE;
-        if (i < 0 || i >= java.lang.reflect.Array.getLength(tapes[tape])) return Long.MIN_VALUE;
+        if (i < 0 || i >= size(tapes[tape])) return Long.MIN_VALUE;
         Object item = java.lang.reflect.Array.get(tapes[tape], i);
         return item instanceof Boolean ? (Boolean) item ? 1 : 0 : ((Number) item).longValue();
     }
 
     int shift(int tape, int i, int other, int j, int n) {
         if (tape < 0 || tape > 5 || other < 0 || other > 5) return -1;
-        try {
-            System.arraycopy(tapes[tape], i, tapes[other], j, n);
-            return n;
-        } catch (NullPointerException e) {
-            return -11;
-        } catch (ArrayStoreException e) {
-            return -12;
-        } catch (IndexOutOfBoundsException e) {
-            return -13;
-        }
+        Object from = tapes[tape], to = tapes[other];
+        if (from == null || to == null) return -11;
+        if (from.getClass() != to.getClass()) return -12;
+        if (n < 0 || i < 0 || j < 0 || i > size(from) || j > size(to) || n > size(from) - i || n > size(to) - j) return -13;
+        System.arraycopy(from, i, to, j, n);
+        return n;
     }
 }
